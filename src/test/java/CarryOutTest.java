@@ -12,6 +12,8 @@ final class CarryOutTest {
         shipParts();
         hours();
         loads();
+        loadOfOneRope(0);
+        loadOfOneRope(1);
         barredOrShort();
         watches();
         CHECK.end();
@@ -145,6 +147,7 @@ final class CarryOutTest {
         ship.minutes(1);
         CHECK.due("aback", ship.look(6), 0);
 
+        truth("aback=1", true);
         TallShip becalmed = Check.ship(12, "if aback { steer 1; }");
         becalmed.minutes(1);
         CHECK.due("aback without a wind", becalmed.look(2), 1);
@@ -199,6 +202,20 @@ final class CarryOutTest {
         Check.order(ship, "furl 1; wait 8; if load { steer 6; } else { steer 7; }");
         ship.minutes(9);
         CHECK.due("load without a rope that holds", ship.look(2), 7);
+    }
+
+    /** The ropes of a sail are not the same any more when one of them is renewed. */
+    private static void loadOfOneRope(int renewed) {
+        TallShip ship = Check.ship(12, "set 0; wait 14; furl 0; rope " + renewed + "; set 0; wait 4;"
+            + "while load < 250 { wait 1; } steer 3;");
+        ship.wind(0, 16, 12);
+        // From minute 5 to 20 and from 35 on: by 13 each, 16 times and then 4 times.
+        ship.minutes(38);
+        CHECK.due("the older rope", ship.rope(1 - renewed, 1), 260);
+        CHECK.due("the newer rope", ship.rope(renewed, 1), 52);
+        CHECK.due("look(2)", ship.look(2), 0);
+        ship.minutes(1);
+        CHECK.due("look(2)", ship.look(2), 3);
     }
 
     private static void barredOrShort() {

@@ -7,7 +7,10 @@ final class SailRopeTest {
         setAndFurl();
         upon();
         bothPart();
-        onePartsAlone();
+        for (int s = 0; s < 9; s++) {
+            onePartsAlone(s, 2 * s, 2 * s + 1);
+            onePartsAlone(s, 2 * s + 1, 2 * s);
+        }
         furlEndsAtParting();
         bearsNineHundred();
         wearByLoad();
@@ -104,42 +107,47 @@ final class SailRopeTest {
         CHECK.due("look(7)", ship.look(7), 0);
     }
 
-    private static void onePartsAlone() {
-        TallShip ship = Check.ship(12, "set 0;");
+    /** One rope is renewed while the sail is furled; the other, older, parts by itself. */
+    private static void onePartsAlone(int s, int renewed, int old) {
+        int load = s % 3 == 0 ? 216 : s % 3 == 1 ? 180 : 108;
+        int grows = load / 16;
+        int height = s % 3;
+        TallShip ship = Check.ship(12, "set " + s + ";");
         ship.wind(0, 16, 12);
         ship.minutes(30);
-        CHECK.due("wear", ship.rope(0, 1), 26 * 13);
         // The furl bars the rope, the rope bars the set.
-        Check.order(ship, "furl 0; rope 0; set 0;");
-        ship.minutes(6);
-        sailIs(ship, 0, 1, 1, 1);
+        Check.order(ship, "furl " + s + "; rope " + renewed + "; set " + s + ";");
+        ship.minutes(6 + 2 * height);
+        sailIs(ship, s, 1, 1, 1);
         CHECK.due("look(9)", ship.look(9), 2);
         ship.minutes(1);
-        sailIs(ship, 0, 0, 0, 0);
-        CHECK.due("rope(0, 2)", ship.rope(0, 2), 1);
-        CHECK.due("rope(1, 1)", ship.rope(1, 1), 32 * 13);
+        sailIs(ship, s, 0, 0, 0);
+        CHECK.due("rope(renewed, 2)", ship.rope(renewed, 2), 1);
+        CHECK.due("rope(old, 1)", ship.rope(old, 1), 32 * grows);
         ship.minutes(10);
-        sailIs(ship, 0, 0, 0, 1);
-        CHECK.due("rope(0, 1)", ship.rope(0, 1), 0);
-        CHECK.due("rope(1, 1)", ship.rope(1, 1), 32 * 13);
-        ship.minutes(71 - 47);
-        sailIs(ship, 0, 1, 1, 0);
-        CHECK.due("rope(0, 1)", ship.rope(0, 1), 21 * 13);
-        CHECK.due("rope(1, 1)", ship.rope(1, 1), 53 * 13);
+        sailIs(ship, s, 0, 0, 1);
+        CHECK.due("rope(renewed, 1)", ship.rope(renewed, 1), 0);
+        CHECK.due("rope(old, 1)", ship.rope(old, 1), 32 * grows);
+        ship.minutes(3 + 2 * height);
+        int lasts = (900 - load) / grows - 32 + 1;
+        ship.minutes(lasts);
+        sailIs(ship, s, 1, 1, 0);
+        CHECK.due("rope(renewed, 1)", ship.rope(renewed, 1), lasts * grows);
+        CHECK.due("rope(old, 1)", ship.rope(old, 1), (32 + lasts) * grows);
         ship.minutes(1);
-        CHECK.due("sail(0, 0)", ship.sail(0, 0), 2);
-        CHECK.due("rope(0, 0)", ship.rope(0, 0), 0);
-        CHECK.due("rope(1, 0)", ship.rope(1, 0), 2);
-        CHECK.due("the other rope wears as well", ship.rope(0, 1), 22 * 13);
+        CHECK.due("sail(s, 0)", ship.sail(s, 0), 2);
+        CHECK.due("rope(renewed, 0)", ship.rope(renewed, 0), 0);
+        CHECK.due("rope(old, 0)", ship.rope(old, 0), 2);
+        CHECK.due("the other rope wears as well", ship.rope(renewed, 1), (lasts + 1) * grows);
         CHECK.due("look(8)", ship.look(8), 1);
         // To renew the rope that is whole is not enough.
-        Check.order(ship, "rope 0; wait 10; rope 1;");
+        Check.order(ship, "rope " + renewed + "; wait 10; rope " + old + ";");
         ship.minutes(11);
-        CHECK.due("sail(0, 0)", ship.sail(0, 0), 2);
-        CHECK.due("rope(0, 1)", ship.rope(0, 1), 0);
+        CHECK.due("sail(s, 0)", ship.sail(s, 0), 2);
+        CHECK.due("rope(renewed, 1)", ship.rope(renewed, 1), 0);
         ship.minutes(10);
-        sailIs(ship, 0, 0, 0, 0);
-        CHECK.due("rope(1, 1)", ship.rope(1, 1), 0);
+        sailIs(ship, s, 0, 0, 0);
+        CHECK.due("rope(old, 1)", ship.rope(old, 1), 0);
         CHECK.due("what parted stays counted", ship.look(8), 1);
     }
 
@@ -162,20 +170,24 @@ final class SailRopeTest {
     }
 
     private static void bearsNineHundred() {
-        // With force 4 the load is 24, a wear of 1 a minute; with force 12 it is 216.
+        bears(684, 1);
+        bears(685, 2);
+    }
+
+    /** With force 4 the load is 24, a wear of 1 a minute; with force 12 it is 216. */
+    private static void bears(int worn, int due) {
         TallShip ship = Check.ship(12, "set 0;");
         ship.wind(0, 16, 4);
-        ship.minutes(4);
-        for (int i = 0; i < 6; i++) {
-            ship.minutes(114);
+        for (int left = 4 + worn; left > 0; left -= 120) {
+            ship.minutes(Math.min(120, left));
         }
-        CHECK.due("wear", ship.rope(0, 1), 684);
-        ship.wind(689, 16, 12);
+        CHECK.due("wear", ship.rope(0, 1), worn);
+        ship.wind(5 + worn, 16, 12);
         ship.minutes(1);
-        CHECK.due("900 is borne", ship.sail(0, 0), 1);
-        CHECK.due("wear", ship.rope(0, 1), 697);
+        CHECK.due("216 above " + worn, ship.sail(0, 0), due);
+        CHECK.due("wear", ship.rope(0, 1), due == 1 ? worn + 13 : worn);
         ship.minutes(1);
-        CHECK.due("913 is not", ship.sail(0, 0), 2);
+        CHECK.due("216 more", ship.sail(0, 0), 2);
     }
 
     private static void wearByLoad() {
