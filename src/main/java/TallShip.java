@@ -1083,7 +1083,7 @@ public final class TallShip {
 
         private void traceBack(int x, int y) {
             putOnly(leading, glasses, x, y);
-            for (int g = glasses - 1; g >= 0; g--) {
+            for (int g = glasses - 1; g > 0; g--) {
                 clear(leading, g);
                 for (int c = 0; c < Compass.POINTS; c++) {
                     int way = g * Compass.POINTS + c;

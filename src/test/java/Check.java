@@ -76,6 +76,39 @@ final class Check {
         return text.repeat(n);
     }
 
+    /** So many minutes, of which one call passes 120 at most. */
+    static void pass(TallShip ship, int minutes) {
+        for (int left = minutes; left > 0; left -= 120) {
+            ship.minutes(Math.min(120, left));
+        }
+    }
+
+    /** All that the calls tell of a ship, in some 170 calls. */
+    static String stateOf(TallShip ship) {
+        StringBuilder all = new StringBuilder();
+        for (int what = 0; what <= 14; what++) {
+            all.append(ship.look(what)).append(' ');
+        }
+        for (int s = 0; s < 9; s++) {
+            all.append('s').append(ship.sail(s, 0)).append(ship.sail(s, 1));
+        }
+        for (int r = 0; r < 18; r++) {
+            all.append('r').append(ship.rope(r, 0)).append(' ').append(ship.rope(r, 1)).append(' ')
+                .append(ship.rope(r, 2));
+        }
+        for (int m = 0; m < 3; m++) {
+            all.append('b').append(ship.braced(m));
+        }
+        for (int h = 0; hand(ship, h, 0) != THROWS; h++) {
+            all.append('h').append(hand(ship, h, 0)).append(' ').append(hand(ship, h, 1)).append(' ')
+                .append(hand(ship, h, 2));
+        }
+        for (int glass = 0; glass < 8; glass++) {
+            all.append('l').append(ship.leg(glass));
+        }
+        return all.toString();
+    }
+
     private static long eight(byte[] signs, int from) {
         long packed = 0;
         for (int i = from; i < from + 8; i++) {
