@@ -354,7 +354,7 @@ public final class TallShip {
         static final int FEWEST = 4;
         static final int MOST = 24;
         static final int USUAL = 12;
-        private static final int BOTH = 2;
+        static final int BOTH = 2;
 
         final int size;
         final int[] job;
@@ -454,7 +454,6 @@ public final class TallShip {
 
         private static final int BEARS = 900;
         private static final int[] AREA = {6, 5, 3};
-        private static final int[] HANDS = {3, 4, 5, 2};
 
         final int[] sailState = new int[SAILS];
         final int[] ropeState = new int[ROPES];
@@ -479,7 +478,12 @@ public final class TallShip {
         }
 
         static int handsFor(int job) {
-            return HANDS[job];
+            switch (job) {
+                case Script.SET: return 3;
+                case Script.FURL: return 4;
+                case Script.BRACE: return 5;
+                default: return 2;
+            }
         }
 
         int minutesFor(int job, int thing, int aim) {
@@ -821,9 +825,8 @@ public final class TallShip {
         private static final int OUT_OF_RANGE = 4;
         private static final int TOO_MANY = 5;
         private static final int DEEPEST = 8;
-        private static final int[] LOWEST = {0, 0, 0, 0, 0, 0, 1};
-        private static final int[] HIGHEST = {8, 8, 2, 17, 31, 2, 999};
         private static final int MOST_BRACED = 8;
+        private static final int LONGEST_WAIT = 999;
 
         private final Tape tape;
         private final int[] open = new int[DEEPEST];
@@ -915,7 +918,7 @@ public final class TallShip {
         }
 
         private int readOrder(int i, int verb) {
-            int fault = checkNumber(LOWEST[verb], HIGHEST[verb]);
+            int fault = checkNumber(verb == Script.WAIT ? 1 : 0, highestOf(verb));
             if (fault != 0) {
                 return fault;
             }
@@ -930,6 +933,17 @@ public final class TallShip {
                 tape.advance();
             }
             return readSign(';');
+        }
+
+        private static int highestOf(int verb) {
+            switch (verb) {
+                case Script.BRACE: return Rig.MASTS - 1;
+                case Script.ROPE: return Rig.ROPES - 1;
+                case Script.STEER: return Compass.POINTS - 1;
+                case Script.CALL: return Crew.BOTH;
+                case Script.WAIT: return LONGEST_WAIT;
+                default: return Rig.SAILS - 1;
+            }
         }
 
         private int checkNumber(int lowest, int highest) {
@@ -1003,15 +1017,16 @@ public final class TallShip {
         }
 
         private int readOpening(int i) {
-            if (tape.kind == '{' && depth >= DEEPEST) {
+            if (tape.kind != '{') {
+                return faultHere(OUT_OF_PLACE);
+            }
+            if (depth >= DEEPEST) {
                 return faultHere(TOO_MANY);
             }
-            int fault = readSign('{');
-            if (fault == 0) {
-                open[depth] = i;
-                depth++;
-            }
-            return fault;
+            open[depth] = i;
+            depth++;
+            tape.advance();
+            return 0;
         }
     }
 

@@ -15,11 +15,14 @@ final class BoundsSailingTest {
         bestIsEightAtMost();
         trimIsNothingAtLeast();
         drawIsCutTowardsNothing();
+        eachSailsDrawIsCut();
         fourteenAtMost();
         threeAsternAtLeast();
         speedGoesOneNearer();
         wearGrowsBySixteenths();
+        loadAbackIsTwiceTheCutLoad();
         onePartsTheOtherIsAskedToo();
+        onePartsOfEachSail();
         bothPartAtOnce();
         setEndsAndPartsInOneMinute();
         furlEndsAheadOfParting();
@@ -171,6 +174,18 @@ final class BoundsSailingTest {
         CHECK.due("a draw of -20", speed(trimmed(0, 0, 0, 3), 0, 7), -1);
     }
 
+    /** "A SET SAIL draws AREA * f * T * M / 64 .. DRAW: the sum": each SAIL's part is cut, not the sum of them. */
+    private static void eachSailsDrawIsCut() {
+        // 3 * (3 + 2 + 1), where 42 * 4 * 8 / 64 would be 21.
+        CHECK.due("a draw of 18", speed(trimmed(0, 8, ALL), 6, 1), 0);
+        // 3 * (11 + 9 + 5); a divisor of 63 would make it 81.
+        CHECK.due("a draw of 75", speed(trimmed(0, 1, ALL), 13, 3), 3);
+        // 3 * (20 + 16 + 10), where the sum alone would be 141.
+        CHECK.due("a draw of 138", speed(trimmed(0, 6, ALL), 7, 6), 6);
+        // 3 * (3 + 2 + 1) less than nothing, where 42 * 2 / 4 would be 21.
+        CHECK.due("a draw of -18", speed(trimmed(0, 0, ALL), 0, 2), 0);
+    }
+
     /** "14 at most". */
     private static void fourteenAtMost() {
         // From abeam 42 for each force: 294 is 14, 336 were 16.
@@ -219,6 +234,22 @@ final class BoundsSailingTest {
         }
     }
 
+    /** "The LOAD of a SET SAIL is f * f * AREA / 4, twice that ABACK": 726 / 4 is 181, and twice that 362. */
+    private static void loadAbackIsTwiceTheCutLoad() {
+        for (int more = 0; more <= 1; more++) {
+            TallShip ship = trimmed(0, 0, 0);
+            // 41 minutes of 13, then 5 or 6 of 1: a WEAR of 538 bears 362, one of 539 does not.
+            ship.wind(61, 16, 12);
+            ship.wind(102, 16, 4);
+            ship.minutes(46 + more);
+            CHECK.due("rope(0, 1)", ship.rope(0, 1), 538 + more);
+            ship.wind(107 + more, 0, 11);
+            ship.minutes(1);
+            CHECK.due("sail(0, 0)", ship.sail(0, 0), 1 + more);
+            CHECK.due("rope(0, 1) behind", ship.rope(0, 1), more == 0 ? 538 + 22 : 539);
+        }
+    }
+
     /** In minute 51, force 12 from behind: sail 0 is set anew, one rope worn to 416 by then, the other renewed. */
     private static TallShip unevenRopes(int renewed) {
         TallShip ship = Check.ship(12, "set 0; wait 30; furl 0; wait 6; rope " + renewed + "; wait 10; set 0;");
@@ -245,6 +276,41 @@ final class BoundsSailingTest {
             CHECK.due("the new rope's wear", ship.rope(renewed, 1), 13 * 22);
             CHECK.due("look(8)", ship.look(8), 1);
         }
+    }
+
+    /** The same of each SAIL, while all others stand: what is theirs still HOLDS. */
+    private static void onePartsOfEachSail() {
+        for (int s = 0; s < 9; s++) {
+            for (int renewed = 2 * s; renewed <= 2 * s + 1; renewed++) {
+                TallShip ship = oneRopeWorn(s, renewed);
+                for (int n = 0; n < 60 && ship.sail(s, 0) != 2; n++) {
+                    ship.minutes(1);
+                }
+                CHECK.due("sail(" + s + ", 0)", ship.sail(s, 0), 2);
+                for (int r = 0; r < 18; r++) {
+                    int due = r / 2 != s ? 1 : r == renewed ? 0 : 2;
+                    CHECK.due("rope(" + r + ", 0), sail " + s + " gone", ship.rope(r, 0), due);
+                    CHECK.due("sail(" + r / 2 + ", 0), " + s + " gone", ship.sail(r / 2, 0), r / 2 == s ? 2 : 1);
+                }
+                CHECK.due("look(8)", ship.look(8), 1);
+            }
+        }
+    }
+
+    /** All SAILS are set, SAIL s with one ROPE that was renewed and one that parts first. */
+    private static TallShip oneRopeWorn(int s, int renewed) {
+        int worn = s % 3 == 2 ? 100 : 40;
+        StringBuilder text = new StringBuilder("call 2; set " + s + "; wait " + worn + "; furl " + s
+            + "; wait 10; rope " + renewed + "; wait 10; set " + s + ";");
+        for (int other = 0; other < 9; other++) {
+            text.append(other == s ? "" : "set " + other + ";");
+        }
+        TallShip ship = Check.ship(24, text.toString());
+        ship.wind(0, 16, 12);
+        Check.pass(ship, worn + 20 + 13);
+        CHECK.due("all stand, sail " + s, ship.look(11) - ship.look(7), 1);
+        CHECK.due("none parted yet", ship.look(8), 0);
+        return ship;
     }
 
     /** Both PART in one minute: both are counted, neither is LOOSE. */

@@ -34,6 +34,8 @@ final class BoundsTextTest {
         oneComparison();
         faultChangesTheTapeAlone();
         textTakesThePlaceOfAnother();
+        faultLeavesNothingBehind();
+        readingAgainBeginsAnew();
         fullTapeOfText();
         CHECK.end();
     }
@@ -481,6 +483,52 @@ final class BoundsTextTest {
             CHECK.due("look(6)", twice.look(6), 1);
             twice.minutes(1);
             CHECK.due("look(6)", twice.look(6), 2);
+        }
+    }
+
+    /** A text is read as if none had been read: what a fault left open is closed, what it counted is forgotten. */
+    private static void faultLeavesNothingBehind() {
+        String deep = Check.times(8, "if 1 {") + Check.times(8, "}");
+        String[] faulty = {"if 1 { while 2 {", "if 1 { set 9;", "if 1 {} else {", Check.times(8, "while 1 {") + "if 1 {",
+            Check.times(81, "call 0;"), "brace 2", "wait"};
+        for (String text : faulty) {
+            TallShip ship = new TallShip(12);
+            CHECK.due("a fault", Check.order(ship, text) == 0, false);
+            CHECK.due("a brace behind " + text, Check.order(ship, "}"), 1);
+            CHECK.due("a fault", Check.order(ship, text) == 0, false);
+            CHECK.due("else behind " + text, Check.order(ship, "else { steer 3; }"), 1);
+            CHECK.due("a fault", Check.order(ship, text) == 0, false);
+            CHECK.due("eight deep behind " + text, Check.order(ship, deep), 0);
+            CHECK.due("a fault", Check.order(ship, text) == 0, false);
+            CHECK.due("eighty behind " + text, Check.order(ship, Check.times(80, "call 1;")), 0);
+            CHECK.due("look(10)", ship.look(10), 80);
+            CHECK.due("a fault", Check.order(ship, text) == 0, false);
+            CHECK.due("an order behind " + text, Check.order(ship, "steer 3;"), 0);
+            ship.minutes(1);
+            CHECK.due("look(2) behind " + text, ship.look(2), 3);
+            CHECK.due("look(11) behind " + text, ship.look(11), 1);
+        }
+    }
+
+    /** Of each E and each block, whatever stood in its place in the texts ahead. */
+    private static void readingAgainBeginsAnew() {
+        String[] tests = {"2", "0", "2 < 3", "3 < 2", "2 = 2", "2 = 3", "1 - hour - 1", "1 + force"};
+        boolean[] holds = {true, false, true, false, true, false, false, true};
+        for (int ahead = 0; ahead < tests.length; ahead++) {
+            for (int i = 0; i < tests.length; i++) {
+                TallShip ship = new TallShip(12);
+                // So many that each place in which a text is kept has held the one ahead.
+                for (int n = 0; n < 3; n++) {
+                    CHECK.due("ahead", Check.order(ship, "if " + tests[ahead] + " { wait 9; } else { call 2; }"), 0);
+                }
+                CHECK.due("orders", Check.order(ship, "if " + tests[i] + " { steer 7; }"), 0);
+                ship.minutes(1);
+                String pair = tests[i] + " behind " + tests[ahead];
+                CHECK.due("look(2) of " + pair, ship.look(2), holds[i] ? 7 : 0);
+                CHECK.due("look(9) of " + pair, ship.look(9), holds[i] ? 2 : 1);
+                CHECK.due("look(11) of " + pair, ship.look(11), 1);
+                CHECK.due("look(6) of " + pair, ship.look(6), 0);
+            }
         }
     }
 

@@ -47,7 +47,20 @@ final class FaceTest {
                 check.due(m + " is private", Modifier.isPrivate(m.getModifiers()), true);
             }
         }
+        // The language's rule 1, which holds for the classes inside as well.
+        for (Method m : TallShip.class.getDeclaredMethods()) {
+            check.due(m + " bears a public name", Modifier.isPrivate(m.getModifiers()) && isOfFace(m), false);
+        }
+        for (Class<?> inside : TallShip.class.getDeclaredClasses()) {
+            for (Method m : inside.getDeclaredMethods()) {
+                check.due(m + " bears a public name", isOfFace(m), false);
+            }
+        }
         check.due("the methods " + seen, seen.equals(new TreeSet<>(Arrays.asList(FACE))), true);
+    }
+
+    private static boolean isOfFace(Method m) {
+        return Arrays.stream(FACE).anyMatch(face -> face.contains(" " + m.getName() + "("));
     }
 
     private static void fields(Check check) {
